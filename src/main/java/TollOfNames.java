@@ -469,7 +469,7 @@ public final class TollOfNames {
     }
 
     private static boolean isFact(int token) {
-        return within(token, FACT, FACT + FACTS - 1);
+        return token >= FACT && token < FACT + FACTS;
     }
 
     /** The people: each one's row of names stands in nine cells of one array. */
@@ -1392,6 +1392,7 @@ public final class TollOfNames {
         private final World world;
         private final Toll toll;
         private int crowd;
+        private int size;
         private int bridge;
         int most;
         final int[] row = new int[MAX_ORDER];
@@ -1404,6 +1405,7 @@ public final class TollOfNames {
 
         boolean find(int some, int over) {
             crowd = some;
+            size = Integer.bitCount(some);
             bridge = over;
             most = NONE;
             seek(some, 0);
@@ -1415,7 +1417,8 @@ public final class TollOfNames {
                 consider(depth);
                 return;
             }
-            if (depth >= MAX_ORDER) {
+            // nothing behind an order by which all are alone can be better
+            if (depth >= MAX_ORDER || most == size) {
                 return;
             }
             for (int person = 0; person < world.people.count; person++) {

@@ -78,7 +78,7 @@ public final class RandomRunsTest {
         if (random.nextBoolean()) {
             law();
         }
-        call("set", 1, 0, random.nextInt(30));
+        call("set", 1, 0, random.nextInt(random.nextBoolean() ? 5 : 30));
         call("set", 0, 0, random.nextInt(1001));
         for (int i = 0; i < 2 * LENGTH && told.size() < LENGTH && !wrong; i++) {
             step();
@@ -91,13 +91,13 @@ public final class RandomRunsTest {
             case 1: call("day"); lookAround(); break;
             case 2: case 3: call("undo"); lookAround(); break;
             case 4: call("image", random.nextInt(2)); lookAround(); break;
-            case 5: case 6: call("christen", person(), name()); break;
+            case 5: case 6: case 28: case 29: case 30: call("christen", person(), name()); break;
             case 7: case 8: call("take", person(), bridge(), name()); break;
             case 9: call("set", random.nextInt(5), person(), number(random.nextInt(4) == 0 ? 10000 : 30)); break;
             case 10: call("set", 3, person(), number(places)); break;
             case 11: call("state", random.nextInt()); break;
             case 12: case 13: call("round", bridge()); call("look", 9); break;
-            case 14: plans(); break;
+            case 14: case 27: plans(); break;
             case 15: ways(); break;
             case 16: orders(); break;
             case 17: call("night", person(), person()); break;
@@ -115,18 +115,39 @@ public final class RandomRunsTest {
 
     private void crossOften() {
         int who = person();
-        for (int i = 0; i < 3; i++) {
-            call("cross", who, bridge());
+        for (int i = 0; i < 2; i++) {
+            call("cross", who, bridgeFrom(oracle.of(who, 0)));
         }
+        call("cross", who, bridge());
         call("of", who, number(22));
+    }
+
+    /** A bridge at the place if one is found soon, so that crossings and walks come about. */
+    private int bridgeFrom(int place) {
+        int found = bridge();
+        for (int i = 0; i < 20 && oracle.look(60 + 2 * found) != place && oracle.look(61 + 2 * found) != place; i++) {
+            found = random.nextInt(bridges);
+        }
+        return found;
+    }
+
+    private int across(int over, int place) {
+        int first = oracle.look(60 + 2 * over);
+        return first == place ? oracle.look(61 + 2 * over) : first;
     }
 
     private void walks() {
         int who = person();
         for (int i = 0; i < 4; i++) {
-            call("behind", who, bridge(), bridge(), random.nextBoolean() ? -1 : bridge(), bridge(), bridge());
+            int[] args = {who, -1, -1, -1, -1, -1};
+            int place = oracle.of(who, 0);
+            int steps = 1 + random.nextInt(5);
+            for (int step = 1; step <= steps; step++) {
+                args[step] = random.nextInt(8) == 0 ? bridge() : bridgeFrom(place);
+                place = across(args[step], place);
+            }
+            call("behind", args);
         }
-        call("behind", who, bridge(), -1, -1, -1, -1);
     }
 
     private void ways() {
@@ -139,13 +160,23 @@ public final class RandomRunsTest {
 
     private void plans() {
         int who = person();
-        if (random.nextBoolean()) {
+        if (random.nextInt(4) != 0) {
             call("round", -1);
-            int steps = 1 + random.nextInt(8);
+            int steps = 1 + random.nextInt(13);
+            int place = oracle.of(who, 0);
             for (int i = 0; i < steps; i++) {
-                call("round", random.nextInt(bridges));
+                int over = bridgeFrom(place);
+                if (over != -1) {
+                    call("round", over);
+                    place = across(over, place);
+                }
             }
-            call("set", 3, who, random.nextInt(places));
+        }
+        if (random.nextInt(3) == 0) {
+            call("set", 1, 0, random.nextInt(8));
+        }
+        if (random.nextInt(3) == 0) {
+            tell(Texts.tightLaw(random));
         }
         for (int what : new int[] {0, 10, 11, 12, 13, number(15)}) {
             call("plan", who, what);
@@ -168,6 +199,12 @@ public final class RandomRunsTest {
         for (int p = 0; p < people; p++) {
             if ((set >> p & 1) != 0) {
                 call("set", 3, p, place);
+            }
+        }
+        if (random.nextBoolean()) {
+            tell(Texts.lawOfTurns(random));
+            for (int i = 0; i < 8; i++) {
+                call("christen", person(), name());
             }
         }
         for (int what : new int[] {0, 10, 11, 12, 13, 14, 15, 16}) {
@@ -214,7 +251,10 @@ public final class RandomRunsTest {
     }
 
     private void law() {
-        String text = Texts.law(random);
+        tell(random.nextInt(3) == 0 ? Texts.tightLaw(random) : Texts.law(random));
+    }
+
+    private void tell(String text) {
         for (int[] twenty : Texts.feeds(text)) {
             call("feed", twenty);
         }

@@ -42,6 +42,32 @@ final class Texts {
         return text.toString();
     }
 
+    /** A law by which few names may be left, so that ways are closed and plans need christenings. */
+    static String tightLaw(Random random) {
+        StringBuilder text = new StringBuilder();
+        int lines = 1 + random.nextInt(4);
+        for (int i = 0; i < lines; i++) {
+            text.append("leave when ").append(FACTS[random.nextInt(3)]).append("=").append(random.nextInt(6));
+            text.append(random.nextBoolean() ? " and " : " or ").append(FACTS[random.nextInt(FACTS.length)]);
+            text.append(random.nextBoolean() ? "<" : "=").append(random.nextInt(5)).append(";");
+        }
+        return text.append("keep;").toString();
+    }
+
+    /** A law by which it matters who crosses first. */
+    static String lawOfTurns(Random random) {
+        String[] facts = {"order", "like", "kept", "names"};
+        StringBuilder text = new StringBuilder();
+        int lines = 1 + random.nextInt(2);
+        for (int i = 0; i < lines; i++) {
+            text.append(random.nextBoolean() ? "leave when " : "keep when ").append(facts[random.nextInt(4)]);
+            text.append("<=>".charAt(random.nextInt(3))).append(random.nextInt(3));
+            text.append(random.nextBoolean() ? " and " : " or ").append(facts[random.nextInt(4)]);
+            text.append("<=>".charAt(random.nextInt(3))).append(random.nextInt(3)).append(";");
+        }
+        return text.toString();
+    }
+
     private static void spoil(Random random, StringBuilder text) {
         int times = 1 + random.nextInt(2);
         for (int i = 0; i < times; i++) {
