@@ -285,7 +285,7 @@ public final class TollOfNames {
             return NONE;
         }
         walk.startWay(a, b, c, d, e);
-        if (walk.length == 0) {
+        if (walk.length == 0 || !walk.isOfBridges()) {
             return NONE;
         }
         int end = walk.go(person);
@@ -1248,6 +1248,15 @@ public final class TollOfNames {
         void startRound() {
             System.arraycopy(world.round, 0, way, 0, MAX_ROUND);
             length = world.roundCount;
+        }
+
+        boolean isOfBridges() {
+            for (int i = 0; i < length; i++) {
+                if (!world.isBridge(way[i])) {
+                    return false;
+                }
+            }
+            return true;
         }
 
         boolean hangsTogether(int start) {

@@ -455,11 +455,15 @@ final class Oracle {
         if (!isPerson(person) || a == NONE) {
             return NONE;
         }
+        List<Integer> way = new ArrayList<>(List.of(a, b, c, d, e));
+        if (way.contains(NONE)) {
+            way = way.subList(0, way.indexOf(NONE));
+        }
+        if (!way.stream().allMatch(this::isBridge)) {
+            return NONE;
+        }
         World thought = world.copy();
-        for (int bridge : new int[] {a, b, c, d, e}) {
-            if (bridge == NONE) {
-                break;
-            }
+        for (int bridge : way) {
             int paid = thought.crossing(person, bridge);
             if (paid < 0) {
                 return paid;

@@ -719,7 +719,9 @@ public final class PromiseTest {
         tell(x, "keep when names<4;");
         due(22, "not through", x.behind(he, 0, 1, 2, NONE, NONE), -2);
         due(22, "just through", x.behind(he, 0, 1, NONE, NONE, NONE), 28);
-        due(22, "the first stop counts", x.behind(he, 0, 1, 2, 99, NONE), -2);
+        due(22, "not through, and not from there then", x.behind(he, 0, 1, 2, 1, NONE), -2);
+        due(22, "not through, and no such bridge", x.behind(he, 0, 1, 2, 99, NONE), NONE);
+        due(22, "not from there then, and not through", x.behind(he, 0, 2, 1, 2, NONE), NONE);
         due(22, "nothing stays", x.of(he, 6), 31);
         due(22, "nor the place", x.of(he, 0), 0);
         due(22, "nor with the keeper", x.kept(0, 0), 0);
