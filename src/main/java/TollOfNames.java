@@ -7,8 +7,6 @@ public final class TollOfNames {
     /** What a crossing answers if no name may be left, and if the ferry takes one for nothing. */
     private static final int BLOCKED = -2;
     private static final int FREE = 100;
-    /** How a walk in thought ends if one gets through. */
-    private static final int THROUGH = 0;
 
     private static final int MAX_NAMES = 20;
     private static final int KINDS = 4;
@@ -285,13 +283,14 @@ public final class TollOfNames {
             return NONE;
         }
         walk.startWay(a, b, c, d, e);
-        if (walk.length == 0 || !walk.isOfBridges()) {
+        // a row that can't be is none, even if one would be stuck before its break
+        if (!walk.canBe(now.people.places[person])) {
             return NONE;
         }
-        int end = walk.go(person);
+        boolean through = walk.go(person);
         int has = now.people.has[person];
         walk.back(person);
-        return end == THROUGH ? has : end;
+        return through ? has : BLOCKED;
     }
 
     public int best(int person, int place, int what) {
@@ -328,7 +327,7 @@ public final class TollOfNames {
             return NONE;
         }
         walk.startRound();
-        if (walk.length == 0 || !walk.hangsTogether(now.people.places[person])) {
+        if (!walk.canBe(now.people.places[person])) {
             return NONE;
         }
         toll.remember();
@@ -1223,7 +1222,7 @@ public final class TollOfNames {
         private final World world;
         private final Toll toll;
         private final int[] way = new int[MAX_ROUND];
-        int length;
+        private int length;
         private final int[] dues = new int[MAX_ROUND];
         private final int[] names = new int[MAX_ROUND];
         private int steps;
@@ -1250,40 +1249,30 @@ public final class TollOfNames {
             length = world.roundCount;
         }
 
-        boolean isOfBridges() {
-            for (int i = 0; i < length; i++) {
-                if (!world.isBridge(way[i])) {
-                    return false;
-                }
-            }
-            return true;
-        }
-
-        boolean hangsTogether(int start) {
+        /** Some bridges, each of them from where the one before leads; what they cost is not asked. */
+        boolean canBe(int start) {
             int place = start;
             for (int i = 0; i < length; i++) {
-                if (!world.bridges.touches(way[i], place)) {
+                if (!world.isBridge(way[i]) || !world.bridges.touches(way[i], place)) {
                     return false;
                 }
                 place = world.bridges.across(way[i], place);
             }
-            return true;
+            return length > 0;
         }
 
-        int go(int person) {
+        /** Walks until the end or where one is stuck; answers whether one gets through. */
+        boolean go(int person) {
             for (steps = 0; steps < length; steps++) {
                 int bridge = way[steps];
-                if (!world.standsAt(person, bridge)) {
-                    return NONE;
-                }
-                int due = toll.due(person, bridge);
+                int due = world.standsAt(person, bridge) ? toll.due(person, bridge) : BLOCKED;
                 if (due == BLOCKED) {
-                    return BLOCKED;
+                    return false;
                 }
                 dues[steps] = due;
                 names[steps] = toll.pass(person, bridge, due);
             }
-            return THROUGH;
+            return true;
         }
 
         void back(int person) {
@@ -1376,7 +1365,7 @@ public final class TollOfNames {
 
         private boolean choose(int person, int size, int depth, int first) {
             if (depth >= size || depth >= MAX_PLAN) {
-                boolean through = walk.go(person) == THROUGH;
+                boolean through = walk.go(person);
                 walk.back(person);
                 return through;
             }

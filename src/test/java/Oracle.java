@@ -459,17 +459,18 @@ final class Oracle {
         if (way.contains(NONE)) {
             way = way.subList(0, way.indexOf(NONE));
         }
-        if (!way.stream().allMatch(this::isBridge)) {
-            return NONE;
-        }
+        // walked twice: where every crossing is free it shows alone whether the row can be
+        World freely = world.copy();
+        freely.ferry = Integer.MAX_VALUE;
         World thought = world.copy();
+        boolean through = true;
         for (int bridge : way) {
-            int paid = thought.crossing(person, bridge);
-            if (paid < 0) {
-                return paid;
+            if (freely.crossing(person, bridge) == NONE) {
+                return NONE;
             }
+            through = through && thought.crossing(person, bridge) >= 0;
         }
-        return setOf(thought.people.get(person).row);
+        return through ? setOf(thought.people.get(person).row) : -2;
     }
 
     private record Way(int names, List<Integer> bridges) { }

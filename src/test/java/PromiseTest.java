@@ -719,7 +719,11 @@ public final class PromiseTest {
         tell(x, "keep when names<4;");
         due(22, "not through", x.behind(he, 0, 1, 2, NONE, NONE), -2);
         due(22, "just through", x.behind(he, 0, 1, NONE, NONE, NONE), 28);
-        due(22, "not through, and not from there then", x.behind(he, 0, 1, 2, 1, NONE), -2);
+        due(22, "not through, then not from there at the fourth", x.behind(he, 0, 1, 2, 1, NONE), NONE);
+        due(22, "not through, then not from there at the fifth", x.behind(he, 0, 1, 2, 0, 2), NONE);
+        due(22, "not through, and from there to the fifth", x.behind(he, 0, 1, 2, 0, 1), -2);
+        due(22, "not through, and what is behind the end not asked", x.behind(he, 0, 1, 2, NONE, 1), -2);
+        due(22, "not through at the bridge that is not from there", x.behind(he, 0, 1, 0, NONE, NONE), NONE);
         due(22, "not through, and no such bridge", x.behind(he, 0, 1, 2, 99, NONE), NONE);
         due(22, "not from there then, and not through", x.behind(he, 0, 2, 1, 2, NONE), NONE);
         due(22, "nothing stays", x.of(he, 6), 31);
@@ -730,6 +734,13 @@ public final class PromiseTest {
         due(22, "nor to be undone", x.look(10), 0);
         x.set(1, 0, 12);
         due(22, "free from 12 letters on", x.behind(he, 0, 0, 0, 0, 0), 4 + 8 + 16);
+        tell(x, "keep;");
+        x.set(1, 0, 0);
+        due(22, "stuck at once", x.behind(he, 0, NONE, NONE, NONE, NONE), -2);
+        due(22, "stuck at once, there and back", x.behind(he, 0, 0, 0, 0, 0), -2);
+        due(22, "stuck at once, then not from there", x.behind(he, 0, 2, 0, 0, 0), NONE);
+        due(22, "not from there at once", x.behind(he, 1, 0, NONE, NONE, NONE), NONE);
+        due(22, "still nothing stays", x.of(he, 6), 31);
     }
 
     private static void best() {
