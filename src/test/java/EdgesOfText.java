@@ -199,7 +199,9 @@ final class EdgesOfText {
 
     private static void conditions(Edges e) {
         e.edge(10, "B = A {or A}.", WORLD, leaves(4, "leave when letters=5; keep;"),
-            leaves(4, "leave when letters=1 or letters=5; keep;"), leaves(4, "leave when letters=5 or letters=1; keep;"),
+            leaves(4, "leave when letters=1 or letters=5; keep;"),
+            leaves(4, "leave when letters=5 or letters=1; keep;"),
+            leaves(5, "leave when letters=6 or kind=2; keep;"),
             leaves(3, "leave when letters=9 or letters=4 or letters=8; keep;"),
             // and binds closer
             leaves(4, "leave when letters=5 or letters=1 and letters=2; keep;"),
@@ -434,13 +436,14 @@ final class EdgesOfText {
             """);
         e.edge(10, "kept: how many of it the KEEPER has.", WORLD, leaves(4, "leave when kept=1; keep;"),
             leaves(5, "leave when kept=0; keep;"), leaves("leave when kept=2; keep;"), """
+            # the keeper of another bridge has none
+            bridge 0 1 -> 2
             law leave when kept=1; keep;
-            cross 0 1 -> 4
-            # it has two now, and the keeper of another bridge has none
-            christen 0 4 -> true
-            cross 0 1 -> -2
-            bridge 1 0 -> 2
             cross 0 2 -> -2
+            cross 0 1 -> 4
+            # it has two now
+            christen 0 4 -> true
+            cross 0 1,2 -> -2
             take 3 1 4 -> true
             cross 0 1 -> 4
             """);
