@@ -36,6 +36,7 @@ final class EdgesOfThought {
         behind(e);
         behindWhatCantBe(e);
         best(e);
+        allThereCanBe(e);
         bestOfSeveral(e);
         round(e);
         plan(e);
@@ -215,6 +216,57 @@ final class EdgesOfThought {
             best 1 1 1 -> 1
             set 3 0 7
             best 0 0 0 -> NONE
+            """);
+    }
+
+    /** With as many names, people and bridges as there can be, so that the last ones are asked, too. */
+    private static void allThereCanBe(Edges e) {
+        String all = """
+            20* name 0 1
+            11* bridge 0 1
+            bridge 1 7 -> 11
+            8* person 0 0
+            christen 7 19,18,17,16,15,14,13,12,11 -> true
+            """;
+        e.edge(22, "BEHIND some BRIDGES", all, """
+            behind 7 10 11 11 10 NONE -> {11..15}
+            behind 7 12 NONE NONE NONE NONE -> NONE
+            """);
+        e.edge(23, "BEST way to a PLACE,", all, """
+            best 7 7 0,1 -> 2
+            best 7 7 10 -> 0
+            best 7 7 11 -> 11
+            best 7 2..6 0 -> NONE
+            """);
+        e.edge(25, "PLAN for a ROUND", all, """
+            set 3 7 1
+            round 11 -> 1
+            plan 7 0 -> 0
+            law keep when bridge=11;
+            plan 7 0 -> NONE
+            christen 6 0 -> true
+            round NONE
+            round 0
+            plan 6 0 -> 0
+            law keep when names=1;
+            plan 6 0 -> 1
+            plan 6 10 -> 1
+            """);
+        e.edge(26, "A NIGHT as another one:", all, """
+            christen 0 19 -> true
+            night 6 0 -> NONE
+            set 3 0 7
+            cross 0 11 -> 19
+            christen 0 19 -> true
+            night 6 0 -> 1
+            night 6 7 -> NONE
+            night 7 0 -> 0
+            """);
+        e.edge(27, "ORDER of PEOPLE at a PLACE", all, """
+            order {7} 10 0 -> 1
+            order {2..7} 10 0 -> 1
+            order {2..7} 10 15 -> 7
+            order {2..7} 11 0 -> NONE
             """);
     }
 

@@ -307,7 +307,7 @@ final class EdgesOfTime {
             round 1
             round NONE
             round 1
-            round 0
+            2* round 0
             state -3
             image false -> true
             """;
