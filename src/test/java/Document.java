@@ -4,12 +4,14 @@ import java.nio.file.Files;
 import java.nio.file.Path;
 import java.util.ArrayList;
 import java.util.List;
+import java.util.regex.Matcher;
+import java.util.regex.Pattern;
 
 /** The document, promise by promise, and which of its words have been quoted. */
 final class Document {
     private static final Path FILE = Path.of("../shared/DOC.md");
     private static final int PROMISES = 30;
-    // the terms, and the few words before them that can be quoted but need not be
+    // the terms, and what the document says before them
     private static final int TERMS = 0;
     private static final int HEAD = PROMISES + 1;
 
@@ -39,6 +41,17 @@ final class Document {
         }
     }
 
+    /** The methods of the public face, as "boolean end(int)". */
+    static List<String> face() {
+        List<String> found = new ArrayList<>();
+        String block = between(read(), "## The public face", "## Terms");
+        Matcher m = Pattern.compile("public (\\w+ \\w+)\\(([^)]*)\\);").matcher(block);
+        while (m.find()) {
+            found.add(m.group(1) + "(" + m.group(2).replaceAll(" \\w+(,|$) ?", "$1") + ")");
+        }
+        return found;
+    }
+
     private static String between(String all, String start, String end) {
         int from = all.indexOf(start);
         int to = all.indexOf(end);
@@ -63,10 +76,10 @@ final class Document {
         return "does not stand in the document";
     }
 
-    /** The stretches of words, of the terms and the promises, that nobody quoted. */
+    /** The stretches of words, of what it is, the terms and the promises, that nobody quoted. */
     List<String> untested() {
         List<String> found = new ArrayList<>();
-        for (int part = 0; part < HEAD; part++) {
+        for (int part = 0; part <= HEAD; part++) {
             StringBuilder words = new StringBuilder();
             for (int i = 0; i <= texts[part].length(); i++) {
                 if (i < texts[part].length() && !quoted[part][i]) {
@@ -74,11 +87,18 @@ final class Document {
                     continue;
                 }
                 if (words.toString().matches(".*[A-Za-z0-9].*")) {
-                    found.add((part == TERMS ? "terms: " : "promise " + part + ": ") + words.toString().strip());
+                    found.add(nameOf(part) + ": " + words.toString().strip());
                 }
                 words.setLength(0);
             }
         }
         return found;
+    }
+
+    private static String nameOf(int part) {
+        if (part == HEAD) {
+            return "what it is";
+        }
+        return part == TERMS ? "terms" : "promise " + part;
     }
 }

@@ -31,7 +31,7 @@ final class EdgesOfTelling {
             day -> 0
             """);
         e.edge(1, "The constants: NONE = -1: None.", "name 4 1 -> -1", "of 0 0 -> -1", "book 0 0 -> -1");
-        e.edge(1, "An object is used for at most 512 calls after it has been made", """
+        e.edge(1, "An object is used for at most 512 calls after it has been made; what later calls answer is free.", """
             name 0 1 -> 0
             509* state 9
             look 0 -> 1

@@ -4,6 +4,7 @@ public final class EdgesTest {
 
     public static void main(String[] args) {
         Edges e = new Edges();
+        EdgesOfWhatItIs.all(e);
         EdgesOfTelling.all(e);
         EdgesOfText.all(e);
         EdgesOfDeeds.all(e);
